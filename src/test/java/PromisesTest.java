@@ -187,6 +187,8 @@ public final class PromisesTest {
         due("-4 comes before NONE", x.start(1, 0, -1), -4);
         due("count(2)", x.count(2), 200);
         due("count(3)", x.count(3), 199);
+        due("count(4)", x.count(4), 0);
+        due("count(5)", x.count(5), 0);
         due("tick(7)", x.tick(7), 50);
         due("state(51)", x.state(51), 1);
         due("state(52)", x.state(52), 0);
