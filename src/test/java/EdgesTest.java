@@ -97,6 +97,12 @@ public final class EdgesTest {
         }
         due("area(3)", x.area(3), 9999);
         due("count(5)", x.count(5), 60000);
+        x = Scene.ROOM_FOR_TASKS.make();
+        due("count(0)", x.count(0), 60);
+        due("count(1)", x.count(1), 20);
+        due("count(2)", x.count(2), 20);
+        due("count(4)", x.count(4), 0);
+        due("area(20)", x.area(20), 20);
         x = Scene.FULL.make();
         int[] counts = {60, 20, 200, 129, 70, 30000};
         for (int what = 0; what < counts.length; what++) {

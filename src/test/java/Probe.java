@@ -30,7 +30,7 @@ final class Probe {
         }
         p.newOnes();
         // An empty object has no codes, and what a full one's codes are can't be seen by new tasks.
-        if (scene == Scene.BUSY) {
+        if (scene == Scene.BUSY || scene == Scene.ROOM_FOR_TASKS) {
             p.codes();
             p.orderOfCodes();
         }
@@ -97,9 +97,9 @@ final class Probe {
             tell("start of code " + code, task);
             tell("its program", x.told(task, 1));
             tell("its code", x.told(task, 3));
-            for (int cls = 0; cls <= 9; cls++) {
-                tell("active ones of class " + cls, x.count(10 + cls));
-            }
+        }
+        for (int cls = 0; cls <= 9; cls++) {
+            tell("active ones of class " + cls, x.count(10 + cls));
         }
     }
 
@@ -115,14 +115,15 @@ final class Probe {
     private void orderOfCodes() {
         anew();
         openLimits();
-        int n = x.terminal();
+        int n = Scene.FREE_TERMINAL;
         for (int code = 1; code <= scene.codes; code++) {
-            tell("start of code " + code + " at a new terminal", x.start(code, n, 101));
+            tell("start of code " + code + " at a free terminal", x.start(code, n, 101));
         }
         x.tick(101);
         for (int i = 1; i <= scene.codes; i++) {
-            tell("owner " + i + " of a new terminal", x.owner(n));
-            x.event(x.owner(n), 2, 0);
+            int owner = x.owner(n);
+            tell("owner " + i + " of that terminal", owner);
+            x.event(owner, 2, 0);
         }
     }
 

@@ -4,7 +4,7 @@ import java.util.function.ToIntFunction;
 /**
  * Each call that the document refuses, or answers without doing anything: its answer is the one that
  * is due, and an object after it tells all that one without it tells. Tried on an empty object, on
- * one with tasks in every state, and on a full one.
+ * one with tasks in every state, on one that is full but for tasks, and on a full one.
  */
 public final class RefusedTest {
     private static final int NONE = TaskStates2.NONE;
@@ -40,9 +40,13 @@ public final class RefusedTest {
         handleRefused();
         conditionRefused();
         severalFaults();
+        in(Scene.ROOM_FOR_TASKS);
+        codeWrong();
+        noMoreCodesAndTerminals();
         in(Scene.FULL);
         codeWrong();
-        full();
+        noMoreCodesAndTerminals();
+        noMoreTasks();
         DUE.end();
     }
 
@@ -407,11 +411,16 @@ public final class RefusedTest {
         refused("storage(1, 10001), at 30000", -4, x -> x.storage(1, 10001));
     }
 
-    private static void full() {
-        part("NONE when there are 60 codes, 20 terminals, 200 tasks");
+    private static void noMoreCodesAndTerminals() {
+        part("code: NONE when there are 60");
         refused("code(0, 0, 0)", NONE, x -> x.code(0, 0, 0));
         refused("code(99, 9, 255)", NONE, x -> x.code(99, 9, 255));
+        part("terminal: NONE when there are 20");
         refused("terminal()", NONE, x -> x.terminal());
+    }
+
+    private static void noMoreTasks() {
+        part("start: NONE when there are 200");
         refused("start(1, 0, 0)", NONE, x -> x.start(1, 0, 0));
         refused("start(60, 20, greatest)", NONE, x -> x.start(60, 20, Long.MAX_VALUE));
         refused("start(0, 20, 0)", NONE, x -> x.start(0, 20, 0));

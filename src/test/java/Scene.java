@@ -1,12 +1,19 @@
-/** Objects that a call can be tried on: an empty one, one with tasks in every state, and a full one. */
+/**
+ * Objects that a call can be tried on: an empty one, one with tasks in every state, one that is full
+ * but for tasks, and a full one.
+ */
 enum Scene {
     EMPTY(0, 0, 0),
     BUSY(4, 4, 15),
+    ROOM_FOR_TASKS(60, 20, 20),
     FULL(60, 20, 200);
 
     /** Times at which something in a scene stands or may start, and those next to them. */
     static final long[] MARKS = {
         Long.MIN_VALUE, -1, 0, 1, 99, 100, 101, Long.MAX_VALUE - 1, Long.MAX_VALUE};
+
+    /** A terminal without an active task, where there are terminals and room for tasks. */
+    static final int FREE_TERMINAL = 3;
 
     /** The task of the full object that is at level 10. */
     static final int DEEPEST_OF_FULL = 58;
@@ -25,6 +32,8 @@ enum Scene {
         TaskStates2 x = new TaskStates2();
         if (this == BUSY) {
             fillBusy(x);
+        } else if (this == ROOM_FOR_TASKS) {
+            fillButForTasks(x);
         } else if (this == FULL) {
             fillFull(x);
         }
@@ -94,18 +103,31 @@ enum Scene {
         x.event(15, 0, 0);
     }
 
-    /**
-     * Task 1 ended and left next code 60 and area 1 at terminal 20. Tasks 2 to 57 are of class 0, of
-     * which 50 run; 58 to 77 run at the terminals 1 to 20, 78 to 97 are queued for these, the others
-     * for the time 100. Task 58 is at level 10 with storage 30000, 59 waits for event 3.
-     */
-    private static void fillFull(TaskStates2 x) {
+    private static void codesAndTerminals(TaskStates2 x) {
         for (int n = 1; n <= 60; n++) {
             x.code(n, n % 10, n % 7);
         }
         for (int n = 1; n <= 20; n++) {
             x.terminal();
         }
+    }
+
+    /** The terminals 1 to 20 keep the next codes 41 to 60 and the areas 1 to 20. */
+    private static void fillButForTasks(TaskStates2 x) {
+        codesAndTerminals(x);
+        for (int n = 1; n <= 20; n++) {
+            x.start(n, n, 0);
+            x.back(n, 40 + n, n);
+        }
+    }
+
+    /**
+     * Task 1 ended and left next code 60 and area 1 at terminal 20. Tasks 2 to 57 are of class 0, of
+     * which 50 run; 58 to 77 run at the terminals 1 to 20, 78 to 97 are queued for these, the others
+     * for the time 100. Task 58 is at level 10 with storage 30000, 59 waits for event 3.
+     */
+    private static void fillFull(TaskStates2 x) {
+        codesAndTerminals(x);
         x.start(60, 20, 0);
         x.back(1, 60, 1);
         for (int n = 2; n <= 57; n++) {
