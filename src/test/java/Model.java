@@ -50,19 +50,21 @@ final class Model {
         Arrays.fill(limits, 50);
     }
 
-    /** Answers the call of the face that stands at this place in it, counted from 0 at code. */
-    int call(int method, int a, int b, int c, long when) {
-        return switch (method) {
+    int answer(Call call) {
+        int a = call.a();
+        int b = call.b();
+        int c = call.c();
+        return switch (call.method()) {
             case 0 -> code(a, b, c);
             case 1 -> terminals.size() == 20 ? -1 : added(terminals, new int[2]);
-            case 2 -> start(a, b, when);
+            case 2 -> start(a, b, call.when());
             case 6 -> has(terminals, a) ? terminals.get(a - 1)[1] : -2;
             case 8 -> limit(a, b);
-            case 9 -> when < now ? -4 : tick(when);
+            case 9 -> call.when() < now ? -4 : tick(call.when());
             case 14 -> told(a, b);
             case 15 -> has(terminals, a) ? owner(a) : -2;
             case 16 -> count(a);
-            default -> has(units, a) ? ofUnit(method, units.get(a - 1), b, c) : -2;
+            default -> has(units, a) ? ofUnit(call.method(), units.get(a - 1), b, c) : -2;
         };
     }
 

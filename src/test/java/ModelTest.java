@@ -5,9 +5,6 @@ public final class ModelTest {
     private static final int RUNS = 3000;
     private static final int CALLS = 512;
     private static final int MOST_WRONG_TOLD = 20;
-    private static final String[] NAMES = {
-        "code", "terminal", "start", "event", "link", "back", "area", "storage", "limit",
-        "tick", "purge", "handle", "condition", "state", "told", "owner", "count"};
     // How often each method is called, so that starts outweigh ends and the rows fill up.
     private static final int[] WEIGHTS = {4, 2, 16, 12, 8, 8, 2, 5, 3, 3, 4, 5, 4, 6, 8, 4, 6};
     private static final int[] ODD = {
@@ -46,41 +43,15 @@ public final class ModelTest {
 
     private void step(int i) {
         int method = i < 6 ? i % 2 : pickMethod();
-        int a = pickFirst(method);
-        int b = pickSecond(method);
-        int c = pickThird(method);
-        long when = pickTime(method);
-        int want = model.call(method, a, b, c, when);
-        String call = "call " + i + ", " + NAMES[method] + "(" + a + ", " + b + ", " + c + ", " + when + ")";
-        due.is(call, callReal(method, a, b, c, when), want);
+        Call call = new Call(method, pickFirst(method), pickSecond(method), pickThird(method), pickTime(method));
+        int want = model.answer(call);
+        due.is("call " + i + ", " + call, call.on(real), want);
         if (method == 2 && want > 0) {
             tasks = want;
         }
         if (method == 9 && want >= 0) {
-            now = when;
+            now = call.when();
         }
-    }
-
-    private int callReal(int method, int a, int b, int c, long when) {
-        return switch (method) {
-            case 0 -> real.code(a, b, c);
-            case 1 -> real.terminal();
-            case 2 -> real.start(a, b, when);
-            case 3 -> real.event(a, b, c);
-            case 4 -> real.link(a, b);
-            case 5 -> real.back(a, b, c);
-            case 6 -> real.area(a);
-            case 7 -> real.storage(a, b);
-            case 8 -> real.limit(a, b);
-            case 9 -> real.tick(when);
-            case 10 -> real.purge(a);
-            case 11 -> real.handle(a, b, c);
-            case 12 -> real.condition(a, b);
-            case 13 -> real.state(a);
-            case 14 -> real.told(a, b);
-            case 15 -> real.owner(a);
-            default -> real.count(a);
-        };
     }
 
     private int pickMethod() {

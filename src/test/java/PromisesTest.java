@@ -367,7 +367,7 @@ public final class PromisesTest {
         dueStates(3, 1);
         due("area", x.area(1), 9999);
         due("next", x.start(0, 1, 0), 3);
-        due("both 0", x.back(2, 1, 5), 1);
+        due("next and area", x.back(2, 1, 5), 1);
         due("both 0 are kept too", x.back(3, 0, 0), 1);
         due("area", x.area(1), 0);
         due("next", x.start(0, 1, 0), -2);
